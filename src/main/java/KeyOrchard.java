@@ -21,15 +21,21 @@ public final class KeyOrchard {
 
     private final Sheet[] sheets = new Sheet[SHEETS];
     private final Text text = new Text();
-    private final Grove grove = new Grove();
+    private final Grove grove;
     private final Weather weather = new Weather();
     private final Readings readings = new Readings();
-    private final Season season = new Season(grove);
-    private final Search search = new Search(grove, season);
+    private final Season season;
+    private final Search search;
     private final Bodies bodies = new Bodies();
     private int latestFault = 0;
 
     public KeyOrchard() {
+        // Parts that share parts get them here, so that nothing of a half-made object is handed out.
+        Grove ground = new Grove();
+        Season days = new Season(ground);
+        grove = ground;
+        season = days;
+        search = new Search(ground, days);
         for (int k = 0; k < SHEETS; k++) {
             sheets[k] = new Sheet();
         }
@@ -181,8 +187,7 @@ public final class KeyOrchard {
         if (!grove.hasPrisoner(p)) {
             return UNKNOWN;
         }
-        season.prepare(weather);
-        season.pass(LAST_DAY);
+        passAsTold(LAST_DAY);
         return season.outDay[p];
     }
 
@@ -190,8 +195,7 @@ public final class KeyOrchard {
         if (!grove.hasPrisoner(p)) {
             return UNKNOWN;
         }
-        season.prepare(weather);
-        season.pass(LAST_DAY);
+        passAsTold(LAST_DAY);
         return season.outBy[p];
     }
 
@@ -202,8 +206,7 @@ public final class KeyOrchard {
         if (!grove.isPlanted()) {
             return STATE;
         }
-        season.prepare(weather);
-        season.pass(day);
+        passAsTold(day);
         return grove.allPrisoners() & ~season.inside;
     }
 
@@ -211,8 +214,7 @@ public final class KeyOrchard {
         if (!grove.hasTree(t) || !isDay(day)) {
             return UNKNOWN;
         }
-        season.prepare(weather);
-        season.pass(day);
+        passAsTold(day);
         return season.water[t];
     }
 
@@ -271,8 +273,7 @@ public final class KeyOrchard {
         if (!grove.hasTree(t)) {
             return UNKNOWN;
         }
-        season.prepare(weather);
-        season.pass(LAST_DAY);
+        passAsTold(LAST_DAY);
         int asIs = season.sumOfOutDays();
         season.felled = grove.felled | 1 << t;
         season.pass(LAST_DAY);
@@ -416,16 +417,13 @@ public final class KeyOrchard {
             return LOST;
         }
         if (sheet.isOfOtherLane(lane)) {
-            latestFault = CAST;
-            return LOST;
+            return lostBy(CAST);
         }
         if (!sheet.hasRow) {
-            latestFault = NULL;
-            return LOST;
+            return lostBy(NULL);
         }
         if (!sheet.hasCells(i, 1)) {
-            latestFault = INDEX;
-            return LOST;
+            return lostBy(INDEX);
         }
         return sheet.cells[i];
     }
@@ -516,6 +514,16 @@ public final class KeyOrchard {
     private int faulted(int which) {
         latestFault = which;
         return FAULT_BASE - which;
+    }
+
+    private long lostBy(int which) {
+        latestFault = which;
+        return LOST;
+    }
+
+    private void passAsTold(int lastDay) {
+        season.prepare(weather);
+        season.pass(lastDay);
     }
 
     private static boolean isDay(int day) {

@@ -30,7 +30,7 @@ public final class ModelTest {
     }
 
     private int run(long seed) {
-        while (calls < CALLS - 60 && wrong == 0) {
+        while (calls < CALLS - 100 && wrong == 0) {
             int kind = random.nextInt(100);
             if (calls == 0 && random.nextInt(8) != 0 || kind == 0) {
                 plant();

@@ -64,6 +64,8 @@ public final class PromisesTest {
         free();
         has();
         orderOfADay();
+        aFullOrchard();
+        termsOfTheOneAhead();
         least();
         most();
         saws();
@@ -133,10 +135,13 @@ public final class PromisesTest {
             5, 5, 6, 6, 7, 7, 8, 8, 9,
             19, 28, 4, 2, 11};
         for (int i = 0; i < broken.length; i++) {
-            due(plant(x, broken[i]), -100 - places[i], "orchard of " + broken[i]);
-            due(x.fault(), 0, "fault of a TEXT that is none");
+            KeyOrchard y = orchardOf("kt03g14;010");
+            y.fell(1, true);
+            due(plant(y, broken[i]), -100 - places[i], "orchard of " + broken[i]);
+            due(y.fault(), 0, "fault of a TEXT that is none");
+            due(y.many(0), 2, "many after a TEXT that was not taken");
+            due(y.ofTree(1, 5), 1, "FELLED after a TEXT that was not taken");
         }
-        due(x.many(0), 6, "many after TEXTS that were not taken");
         write(x, 1, 1, "xxkg25o11;129yy");
         due(x.orchard(1, 1, 2, 11), 2, "a part of a row of shorts");
         due(x.ofTree(0, 1), 2, "its first LOCK");
@@ -444,6 +449,35 @@ public final class PromisesTest {
         due(z.out(1), 2, "a FROST keeps what there was");
     }
 
+    private static void aFullOrchard() {
+        KeyOrchard x = orchardOf("kt01t11t21t31t41t51;500;401;302;229;129;029");
+        due(x.free(29), 63, "all behind DAY 29");
+        x.rain(1, 1);
+        int[] days = {0, 1, 1, 1, 1, 1};
+        int[] trees = {NONE, 4, 3, 2, 1, 0};
+        for (int p = 0; p < 6; p++) {
+            due(x.out(p), days[p], "out");
+            due(x.by(p), trees[p], "by");
+            due(x.has(p, 1), p == 5 ? 1 : 0, "has");
+        }
+        due(x.free(0), 1, "free");
+        due(x.free(1), 63, "free");
+        due(x.most(29, 4, -1), 6, "most");
+        due(x.most(29, 4, 0), 5, "row");
+        due(x.worth(5), 10000, "worth");
+        due(x.worth(0), 10028, "worth");
+        due(x.saws(5, 29), 1, "saws");
+        due(x.thief(1), 63, "thief");
+        due(x.tell(5) + x.shake(5), 6, "the last TREE");
+    }
+
+    private static void termsOfTheOneAhead() {
+        KeyOrchard x = orchardOf("kt01;003;004");
+        due(plant(x, "kt01;029;128"), 1, "another TEXT");
+        due(x.out(0), 29, "its own TERM");
+        due(x.out(1), 28, "its own TERM");
+    }
+
     private static void least() {
         promise = 15;
         KeyOrchard x = orchardOf("kt09t07g45;029;120;029;529");
@@ -486,6 +520,13 @@ public final class PromisesTest {
         due(y.least(0, 29, 0), NONE, "fewer");
         y.fell(0, true);
         due(y.least(0, 29, -1), NONE, "FELLED");
+        KeyOrchard four = orchardOf("kt19g19t09;029;129");
+        four.rain(29, 1);
+        due(four.least(1, 29, -1), 3, "least");
+        four.fell(0, true);
+        due(four.least(1, 29, -1), 3, "GRAFTED: 1 of RAIN and 9");
+        due(four.least(1, 28, -1), 4, "4 are the most");
+        due(four.least(1, 28, 3), 1, "row");
     }
 
     private static void most() {
@@ -520,6 +561,12 @@ public final class PromisesTest {
         due(y.most(0, 5, 0), OUTSIDE, "most");
         due(y.most(0, 4, -2), UNKNOWN, "most");
         due(y.most(0, 4, 0), STATE, "most");
+        KeyOrchard z = orchardOf("kt03;029;029");
+        z.rain(0, 9);
+        z.rain(1, 9);
+        z.out(0);
+        z.rain(1, 0);
+        due(z.most(29, 0, -1), 1, "by what is told now");
     }
 
     private static void saws() {
@@ -602,6 +649,16 @@ public final class PromisesTest {
         due(y.odds(0, 2, 0), 3, "odds");
         due(y.odds(0, 2, 1), 4, "odds");
         due(y.odds(0, 8, 0), 3, "a TERM is no TREE");
+        KeyOrchard z = orchardOf("kt04;029");
+        due(z.odds(0, 1, 0), 0, "the RAIN is 3");
+        z.rain(2, 9);
+        z.rain(3, 9);
+        due(z.odds(0, 2, 0), 1, "ahead of DAY 2");
+        due(z.odds(0, 2, 1), 4, "ahead of DAY 2");
+        KeyOrchard now = orchardOf("kt01;029");
+        now.rain(1, 9);
+        due(now.odds(0, 1, 0), 1, "what falls on DAY 1 is no matter");
+        due(now.odds(0, 1, 1), 2, "what falls on DAY 1 is no matter");
         due(y.odds(0, 9, 0), LOST, "odds");
         due(y.odds(0, -1, 0), LOST, "odds");
         due(y.odds(0, 1, 2), LOST, "odds");
