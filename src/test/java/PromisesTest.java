@@ -659,6 +659,10 @@ public final class PromisesTest {
         now.rain(1, 9);
         due(now.odds(0, 1, 0), 1, "what falls on DAY 1 is no matter");
         due(now.odds(0, 1, 1), 2, "what falls on DAY 1 is no matter");
+        KeyOrchard dry = orchardOf("kt03;029");
+        dry.water(0, 0);
+        due(dry.odds(0, 2, 0), 1, "OUT by each row, the dry one, too");
+        due(dry.odds(0, 2, 1), 1, "OUT by each row, the dry one, too");
         due(y.odds(0, 9, 0), LOST, "odds");
         due(y.odds(0, -1, 0), LOST, "odds");
         due(y.odds(0, 1, 2), LOST, "odds");
