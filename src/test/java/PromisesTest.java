@@ -1,48 +1,6 @@
 /** Each promise by itself: ordinary calls, the edges that the document names, wrong calls. */
-public final class PromisesTest {
-    private static final int UNKNOWN = -1, OUTSIDE = -2, STATE = -3, FULL = -4, NONE = -9;
-    private static final int NULL = -11, CAST = -12, INDEX = -13, SIZE = -14;
-    private static final long LOST = Long.MIN_VALUE;
-    private static final int LEAST = Integer.MIN_VALUE, MOST = Integer.MAX_VALUE;
-
-    private static int wrong = 0;
-    private static int promise = 0;
-
+public final class PromisesTest extends Checks {
     private PromisesTest() {
-    }
-
-    private static void due(long got, long want, String what) {
-        if (got != want) {
-            wrong++;
-            System.out.println("promise " + promise + ": " + what + " answered " + got + ", due is " + want);
-        }
-    }
-
-    private static void write(KeyOrchard x, int sheet, int lane, String text) {
-        due(x.sheet(sheet, lane, text.length()), 1, "sheet");
-        for (int i = 0; i < text.length(); i++) {
-            due(x.put(sheet, i, text.charAt(i)), 1, "put");
-        }
-    }
-
-    private static int plant(KeyOrchard x, String text) {
-        write(x, 0, 0, text);
-        return x.orchard(0, 0, 0, text.length());
-    }
-
-    private static KeyOrchard orchardOf(String text) {
-        KeyOrchard x = new KeyOrchard();
-        int trees = plant(x, text);
-        if (trees < 1) {
-            due(trees, 1, "orchard of " + text);
-        }
-        return x;
-    }
-
-    private static void rainDaily(KeyOrchard x, int v) {
-        for (int day = 0; day < 30; day++) {
-            x.rain(day, v);
-        }
     }
 
     public static void main(String[] args) {
@@ -86,13 +44,11 @@ public final class PromisesTest {
         trace();
         fault();
         many();
-        System.out.println(wrong == 0 ? "all promises are kept" : wrong + " answers are not as due");
-        if (wrong != 0) {
-            System.exit(1);
-        }
+        end("all promises are kept");
     }
 
     private static void theConstants() {
+        says("the public face");
         due(KeyOrchard.UNKNOWN, UNKNOWN, "UNKNOWN");
         due(KeyOrchard.OUTSIDE, OUTSIDE, "OUTSIDE");
         due(KeyOrchard.STATE, STATE, "STATE");
@@ -102,7 +58,7 @@ public final class PromisesTest {
     }
 
     private static void newObject() {
-        promise = 1;
+        says("promise 1");
         KeyOrchard x = new KeyOrchard();
         for (int what = 0; what < 4; what++) {
             due(x.many(what), 0, "many");
@@ -123,7 +79,7 @@ public final class PromisesTest {
     }
 
     private static void orchard() {
-        promise = 2;
+        says("promise 2");
         KeyOrchard x = new KeyOrchard();
         due(plant(x, "kt03;010"), 1, "one TREE, one PRISONER");
         due(plant(x, "kt03g14o25t39g45o51;000;129;215;309;420;501"), 6, "the longest TEXT");
@@ -214,7 +170,7 @@ public final class PromisesTest {
     }
 
     private static void ofTree() {
-        promise = 3;
+        says("promise 3");
         KeyOrchard x = orchardOf("kt03g54o25;029");
         int[][] all = {{0, 0, 3, 3, 1, 0}, {1, 5, 4, 5, 33, 0}, {2, 2, 5, 12, 63, 0}};
         for (int t = 0; t < 3; t++) {
@@ -232,7 +188,7 @@ public final class PromisesTest {
     }
 
     private static void ofPrisoner() {
-        promise = 4;
+        says("promise 4");
         KeyOrchard x = orchardOf("kt03;029;512");
         due(x.ofPrisoner(0, 0), 0, "LOCK");
         due(x.ofPrisoner(0, 1), 29, "TERM");
@@ -245,7 +201,7 @@ public final class PromisesTest {
     }
 
     private static void rain() {
-        promise = 5;
+        says("promise 5");
         KeyOrchard x = new KeyOrchard();
         due(x.rain(30, 10), UNKNOWN, "rain");
         due(x.rain(0, 10), OUTSIDE, "rain");
@@ -262,7 +218,7 @@ public final class PromisesTest {
     }
 
     private static void water() {
-        promise = 6;
+        says("promise 6");
         KeyOrchard x = new KeyOrchard();
         due(x.water(0, 0), UNKNOWN, "water");
         due(x.water(30, NONE), UNKNOWN, "water");
@@ -283,7 +239,7 @@ public final class PromisesTest {
     }
 
     private static void frost() {
-        promise = 7;
+        says("promise 7");
         KeyOrchard x = new KeyOrchard();
         due(x.frost(30, true), UNKNOWN, "frost");
         due(x.frost(0, false), STATE, "frost");
@@ -302,7 +258,7 @@ public final class PromisesTest {
     }
 
     private static void crow() {
-        promise = 8;
+        says("promise 8");
         KeyOrchard x = new KeyOrchard();
         due(x.crow(0, 0), UNKNOWN, "crow");
         plant(x, "kt13;029");
@@ -326,7 +282,7 @@ public final class PromisesTest {
     }
 
     private static void shoo() {
-        promise = 9;
+        says("promise 9");
         KeyOrchard x = new KeyOrchard();
         due(x.shoo(0), 0, "shoo");
         due(x.shoo(1), OUTSIDE, "shoo");
@@ -349,7 +305,7 @@ public final class PromisesTest {
     }
 
     private static void fell() {
-        promise = 10;
+        says("promise 10");
         KeyOrchard x = new KeyOrchard();
         due(x.fell(0, true), UNKNOWN, "fell");
         plant(x, "kt03t03;029");
@@ -367,7 +323,7 @@ public final class PromisesTest {
     }
 
     private static void out() {
-        promise = 11;
+        says("promise 11");
         KeyOrchard x = orchardOf("kt03;029;029;112");
         due(x.out(0), 29, "out by TERM");
         due(x.out(2), 12, "out by TERM");
@@ -381,7 +337,7 @@ public final class PromisesTest {
     }
 
     private static void by() {
-        promise = 12;
+        says("promise 12");
         KeyOrchard x = orchardOf("kt03t03g52;005;005;029");
         due(x.by(0), NONE, "by TERM");
         x.rain(5, 3);
@@ -397,7 +353,7 @@ public final class PromisesTest {
     }
 
     private static void free() {
-        promise = 13;
+        says("promise 13");
         KeyOrchard x = orchardOf("kt03;003;029;510");
         x.rain(7, 5);
         due(x.free(2), 0, "free");
@@ -411,7 +367,7 @@ public final class PromisesTest {
     }
 
     private static void has() {
-        promise = 14;
+        says("promise 14");
         KeyOrchard x = orchardOf("kt03t53;020");
         rainDaily(x, 1);
         due(x.has(0, 0), 1, "has");
@@ -479,7 +435,7 @@ public final class PromisesTest {
     }
 
     private static void least() {
-        promise = 15;
+        says("promise 15");
         KeyOrchard x = orchardOf("kt09t07g45;029;120;029;529");
         due(x.least(0, 29, -1), 3, "least");
         due(x.least(0, 29, 0), 0, "the row");
@@ -530,7 +486,7 @@ public final class PromisesTest {
     }
 
     private static void most() {
-        promise = 16;
+        says("promise 16");
         KeyOrchard x = orchardOf("kt03t13;029;029;129;529");
         due(x.most(29, 0, -1), 0, "most");
         due(x.most(29, 0, 0), NONE, "fewer");
@@ -570,7 +526,7 @@ public final class PromisesTest {
     }
 
     private static void saws() {
-        promise = 17;
+        says("promise 17");
         KeyOrchard x = orchardOf("kt03t03g02t13;029;129");
         rainDaily(x, 3);
         due(x.saws(0, 0), 7, "saws");
@@ -595,7 +551,7 @@ public final class PromisesTest {
     }
 
     private static void worth() {
-        promise = 18;
+        says("promise 18");
         KeyOrchard x = orchardOf("kt03t02;029;029");
         x.rain(1, 3);
         x.rain(4, 3);
@@ -622,7 +578,7 @@ public final class PromisesTest {
     }
 
     private static void odds() {
-        promise = 19;
+        says("promise 19");
         KeyOrchard x = orchardOf("kt06;029;029");
         due(x.odds(0, 0, 0), 0, "odds");
         due(x.odds(0, 0, 1), 1, "odds");
@@ -675,7 +631,7 @@ public final class PromisesTest {
     }
 
     private static void green() {
-        promise = 20;
+        says("promise 20");
         KeyOrchard x = orchardOf("kt01g11o21t31t41t51;029");
         due(x.green(0, -1), 4, "green");
         due(x.green(0, 0), 0b001110, "1, 2, 3");
@@ -705,7 +661,7 @@ public final class PromisesTest {
     }
 
     private static void reading() {
-        promise = 21;
+        says("promise 21");
         KeyOrchard x = new KeyOrchard();
         due(x.reading(0, 0, true), UNKNOWN, "reading");
         plant(x, "kt01;029");
@@ -721,7 +677,7 @@ public final class PromisesTest {
     }
 
     private static void back() {
-        promise = 22;
+        says("promise 22");
         KeyOrchard x = new KeyOrchard();
         due(x.back(0), 0, "back");
         due(x.back(1), OUTSIDE, "back");
@@ -740,7 +696,7 @@ public final class PromisesTest {
     }
 
     private static void thief() {
-        promise = 23;
+        says("promise 23");
         KeyOrchard x = orchardOf("kt02t12t22;029;129;220");
         rainDaily(x, 1);
         due(x.thief(0), 7, "no READINGS");
@@ -774,7 +730,7 @@ public final class PromisesTest {
     }
 
     private static void sheet() {
-        promise = 24;
+        says("promise 24");
         KeyOrchard x = new KeyOrchard();
         due(x.sheet(4, 3, -1), UNKNOWN, "sheet");
         due(x.sheet(-1, 0, 1), UNKNOWN, "sheet");
@@ -799,7 +755,7 @@ public final class PromisesTest {
     }
 
     private static void lose() {
-        promise = 25;
+        says("promise 25");
         KeyOrchard x = new KeyOrchard();
         due(x.lose(0), 0, "lose");
         x.sheet(0, 1, 3);
@@ -813,7 +769,7 @@ public final class PromisesTest {
     }
 
     private static void put() {
-        promise = 26;
+        says("promise 26");
         KeyOrchard x = new KeyOrchard();
         due(x.put(4, 0, 0), UNKNOWN, "put");
         due(x.put(-1, 0, 0), UNKNOWN, "put");
@@ -837,7 +793,7 @@ public final class PromisesTest {
     }
 
     private static void cell() {
-        promise = 27;
+        says("promise 27");
         KeyOrchard x = new KeyOrchard();
         x.sheet(0, 1, 2);
         x.put(0, 1, -3);
@@ -860,7 +816,7 @@ public final class PromisesTest {
     }
 
     private static void copy() {
-        promise = 28;
+        says("promise 28");
         KeyOrchard x = new KeyOrchard();
         for (int k = 0; k < 2; k++) {
             x.sheet(k, 0, 5);
@@ -899,7 +855,7 @@ public final class PromisesTest {
     }
 
     private static void tell() {
-        promise = 29;
+        says("promise 29");
         KeyOrchard x = orchardOf("kt03g14o25;029");
         due(x.tell(0), 3, "a TREE");
         due(x.trace(), 1, "1");
@@ -919,7 +875,7 @@ public final class PromisesTest {
     }
 
     private static void shake() {
-        promise = 30;
+        says("promise 30");
         KeyOrchard x = orchardOf("kt03g14o25t01;029");
         due(x.shake(1), 1, "a GRAFTED one");
         due(x.trace(), 4, "4");
@@ -933,7 +889,7 @@ public final class PromisesTest {
     }
 
     private static void as() {
-        promise = 31;
+        says("promise 31");
         KeyOrchard x = orchardOf("kt03g14o25;029");
         int[][] all = {{1, CAST, CAST}, {1, 1, CAST}, {1, 1, 1}};
         for (int t = 0; t < 3; t++) {
@@ -952,7 +908,7 @@ public final class PromisesTest {
     }
 
     private static void trace() {
-        promise = 32;
+        says("promise 32");
         KeyOrchard x = orchardOf("ko25;029");
         int trace = 0;
         due(x.trace(), trace, "trace");
@@ -969,7 +925,7 @@ public final class PromisesTest {
     }
 
     private static void fault() {
-        promise = 33;
+        says("promise 33");
         KeyOrchard x = new KeyOrchard();
         due(x.fault(), 0, "ahead of any");
         int[] faults = {1, 2, 3, 4};
@@ -1026,7 +982,7 @@ public final class PromisesTest {
     }
 
     private static void many() {
-        promise = 34;
+        says("promise 34");
         KeyOrchard x = orchardOf("kt03g14;029;129;229");
         x.crow(0, 0);
         x.crow(0, 0);
